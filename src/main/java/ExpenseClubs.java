@@ -549,13 +549,13 @@ public final class ExpenseClubs {
          */
         private void countMost() {
             most[0] = 0;
-            for (int set = 1; set < 1 << size; set++) {
+            for (int set = 1; set < (1 << size); set++) {
                 long sum = 0;
                 int highest = 0;
                 for (int i = 0; i < size; i++) {
                     if ((set >> i & 1) != 0) {
                         sum += amounts[i];
-                        highest = Math.max(highest, most[set ^ 1 << i]);
+                        highest = Math.max(highest, most[set ^ (1 << i)]);
                     }
                 }
                 most[set] = sum == 0 ? highest + 1 : highest;
