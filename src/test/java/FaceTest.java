@@ -18,6 +18,7 @@ public final class FaceTest {
 
     public static void main(String[] args) {
         methods();
+        exceptions();
         namesAreApart();
         constructors();
         fields();
@@ -45,6 +46,15 @@ public final class FaceTest {
             }
         }
         Due.yes("methods: " + shown, shown.equals(new TreeSet<>(Arrays.asList(FACE))));
+    }
+
+    /** transfer names its two exceptions, and no other method names any. */
+    private static void exceptions() {
+        Class<?>[] due = {IndexOutOfBoundsException.class, IllegalArgumentException.class};
+        for (Method m : ExpenseClubs.class.getDeclaredMethods()) {
+            Class<?>[] named = m.getExceptionTypes();
+            Due.yes("the exceptions of " + m, m.getName().equals("transfer") ? Arrays.equals(named, due) : named.length == 0);
+        }
     }
 
     private static void namesAreApart() {
@@ -77,6 +87,7 @@ public final class FaceTest {
             Due.no(f + " is static state", isStatic && !Modifier.isFinal(f.getModifiers()));
         }
         Due.same("NONE", ExpenseClubs.NONE, -1);
+        Due.same("constants that show", ExpenseClubs.class.getFields().length, 1);
     }
 
     private static void classesInside() {
